@@ -13,6 +13,8 @@ public final class ThirtyThreeBelow {
     private static final int ABOVE = 0, UNDER = 1;
     private static final int EATS = 0, FIRST = 1, STOP = 2;
     private static final int MOST_STRENGTH = 999;
+    // Above every sum of minutes or of weights times HOURS.
+    private static final int FAR = 1000000000;
 
     private final Mountain mountain;
     private final Bodies bodies;
@@ -608,7 +610,7 @@ public final class ThirtyThreeBelow {
     public long element(int shelf, int i) {
         Shelf one = shelfOf(shelf);
         if (one == null || one.refusal(i) != 0) {
-            return Long.MIN_VALUE;
+            return Shelf.REFUSED;
         }
         return one.values[i];
     }
@@ -1104,7 +1106,7 @@ public final class ThirtyThreeBelow {
             int came = 0;
             for (int k = 0; k < n && yard + k <= YARDS; k++) {
                 int y = yard + k;
-                if (i < 0 || i > Shelf.LONGEST || row.refusal(i + k) != 0) {
+                if (row.refusal(i + k) != 0) {
                     lostFrom(y);
                     return came;
                 }
@@ -1537,7 +1539,7 @@ public final class ThirtyThreeBelow {
             }
             leastLeft[all] = 0;
             for (int set = all - 1; set >= 0; set--) {
-                int least = Integer.MAX_VALUE;
+                int least = FAR;
                 for (int i = 0; i < needCount; i++) {
                     if ((set & 1 << i) == 0) {
                         least = Math.min(least, sumWith(set, i));
@@ -1588,7 +1590,7 @@ public final class ThirtyThreeBelow {
         }
 
         int soonestOne(Machine[] machines) {
-            int least = Integer.MAX_VALUE;
+            int least = FAR;
             for (int p = 0; p < aimCount; p++) {
                 for (int m = 0; m < machines.length; m++) {
                     int minutes = worst[p] * machines[m].pace;
@@ -1604,7 +1606,7 @@ public final class ThirtyThreeBelow {
         }
 
         int soonestTwo(Machine[] machines) {
-            int least = Integer.MAX_VALUE;
+            int least = FAR;
             for (int p = 0; p < aimCount; p++) {
                 for (int q = 0; q < aimCount; q++) {
                     if (p != q) {
@@ -1767,7 +1769,8 @@ public final class ThirtyThreeBelow {
         static final int NOTHING = 0, A_BODY = 1, A_ROW = 2;
         static final int BYTES = 0, CHARS = 1, INTS = 2, FLOATS = 3, DOUBLES = 4;
         static final int LONGEST = 60;
-        static final long NO_NUMBER = Long.MAX_VALUE;
+        static final long NO_NUMBER = 9223372036854775807L;
+        static final long REFUSED = -NO_NUMBER - 1;
         int holds;
         int bodyNumber;
         int sort;

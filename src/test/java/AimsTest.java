@@ -12,6 +12,7 @@ public final class AimsTest {
         capsule();
         deepCapsule();
         refusedCapsule();
+        manZero();
         raises();
         Due.end();
     }
@@ -221,6 +222,17 @@ public final class AimsTest {
         y.yard(1, 0);
         y.hours(1);
         Due.is("THROUGH", y.race(0, 9, 1), -2);
+        y.speed(1, 11);
+        int other = y.hole(2, 101);
+        y.set(1, other);
+        Due.is("121 minutes", y.race(1, 11, 1), 4);
+        y.breaks(1, 9);
+        Due.is("121 minutes, BROKEN", y.race(1, 11, 1), 12);
+        y.breaks(1, 2);
+        y.hours(3);
+        Due.is("minutes", y.ofBody(other, 6), 120);
+        y.breaks(1, 9);
+        Due.is("one minute is missing", y.race(1, 11, 1), 10);
     }
 
     private static ThirtyThreeBelow withMen() {
@@ -309,6 +321,17 @@ public final class AimsTest {
         Due.is("capsule", x.capsule(shaft), 4);
         Due.is("refused", x.capsule(other), -2);
         Due.is("the latest stays", x.up(0, 0), 5);
+    }
+
+    private static void manZero() {
+        ThirtyThreeBelow x = new ThirtyThreeBelow();
+        x.man(50, 0);
+        x.shelter(31, 1);
+        int shaft = Due.throughAtOnce(x, 4, 3);
+        Due.is("capsule", x.capsule(shaft), 2);
+        Due.is("MAN 0", x.up(0, 0), 0);
+        Due.is("raise", x.raise(1), 1);
+        Due.is("up", x.ofBody(0, 4), 0);
     }
 
     private static void raises() {

@@ -298,6 +298,21 @@ public final class BoringTest {
         y.row(1, 3, 1);
         Due.is("quietly, also where the row ends", y.log(0, 1, 0, 60, 2), 1);
         isAt(y, 60, 11, 11);
+        y.blank(1, 0);
+        Due.is("a blank at 60", y.log(0, 1, 0, 60, 1), 1);
+        isAt(y, 60, 12, 12);
+        Due.is("LOST from 60", y.log(0, 2, 0, 60, 1), 0);
+        isAt(y, 59, 11, 11);
+        isAt(y, 60, 9, 13);
+        y.log(0, 0, 0, 59, 2);
+        Due.is("LOST from 59", y.log(0, 2, 0, 59, 1), 0);
+        isAt(y, 60, 6, 14);
+        y.put(1, 0, 8);
+        y.log(0, 1, 0, 1, 1);
+        isAt(y, 2, 12, 12);
+        y.blank(1, 0);
+        Due.is("a blank at 2", y.log(0, 1, 0, 2, 1), 1);
+        isAt(y, 2, 14, 14);
     }
 
     private static void refusedLogs() {

@@ -55,6 +55,13 @@ public final class HoursTest {
         Due.is("not yet from 6", x.ofBody(0, 6), 240);
         x.hours(2);
         Due.is("what is not 0 stops", x.ofBody(0, 6), 240);
+        ThirtyThreeBelow y = new ThirtyThreeBelow();
+        y.man(50, 99);
+        y.hole(2, 101);
+        y.set(0, 1);
+        Due.text(y, 2, 0, "s+k+i");
+        y.hours(2);
+        Due.is("STOP is of no MAN", y.ofBody(1, 6), 120);
     }
 
     private static void breakfast() {
@@ -186,6 +193,7 @@ public final class HoursTest {
         Due.is("BAD ahead of FULL", x.move(101, 4), -1);
         x.hours(1);
         ThirtyThreeBelow y = new ThirtyThreeBelow();
+        Due.is("the first cell", y.move(1, 1), 1);
         y.hole(2, 101);
         y.set(0, 0);
         y.open(101, 1);
@@ -193,6 +201,7 @@ public final class HoursTest {
         y.yard(0, 0);
         y.hours(1);
         Due.is("bored ahead of the MOVE", y.met(0, 1), 1);
+        Due.is("the first cell", y.ofCell(1, 0), 9);
     }
 
     private static void holds() {
@@ -261,5 +270,13 @@ public final class HoursTest {
         }
         x.spoons(10);
         Due.is("nobody keeps it", x.best(100), 0);
+        Due.is("999", x.best(999), 0);
+        ThirtyThreeBelow y = new ThirtyThreeBelow();
+        y.man(20, 0);
+        y.man(999, 0);
+        y.spoons(9);
+        Due.is("all for the weaker", y.last(0, 9), 6);
+        Due.is("one is not his", y.last(0, 8), 5);
+        Due.is("9", y.best(0), 9);
     }
 }

@@ -7,6 +7,7 @@ public final class MapsTest {
         wrongByOpen();
         wrongByShelter();
         firstOfSeveral();
+        atTheEdges();
         known();
         Due.end();
     }
@@ -25,6 +26,9 @@ public final class MapsTest {
         Due.is("a ninth", x.map(31, 1), -3);
         Due.is("BAD ahead of FULL", x.map(31, 0), -1);
         Due.is("maps", x.count(5), 8);
+        ThirtyThreeBelow y = new ThirtyThreeBelow();
+        Due.is("the first column", y.map(0, 1), 0);
+        Due.is("b", y.known(1), 0);
     }
 
     private static void olds() {
@@ -45,6 +49,13 @@ public final class MapsTest {
         Due.is("map 2", x.old(2, 101), -1);
         Due.is("map -1", x.old(-1, 101), -1);
         Due.is("last cell", x.old(0, 3160), 2);
+        Due.is("also told", x.old(0, 3160), -1);
+        Due.is("first cell", x.old(0, 1), 3);
+        Due.is("also told", x.old(0, 1), -1);
+        Due.is("far right", x.old(0, 3002), 4);
+        Due.is("also told", x.old(0, 3002), -1);
+        Due.is("the same yard", x.old(0, 202), 5);
+        Due.is("the same yard", x.old(0, 502), 6);
         Due.is("of the mountain nothing is told", x.ofCell(101, 1), 0);
     }
 
@@ -143,6 +154,44 @@ public final class MapsTest {
         x.set(1, 1);
         x.hours(3);
         Due.is("HOLE 1 is first", x.wrong(0), 103);
+    }
+
+    /** Eight yards without LOGS: from column 15 it can be anywhere, from 0 at the left, from 31 at the right. */
+    private static void atTheEdges() {
+        ThirtyThreeBelow x = new ThirtyThreeBelow();
+        x.hole(2, 1501);
+        x.set(0, 0);
+        Due.yards(x, 0, 8);
+        x.hours(8);
+        x.map(131, 8);
+        Due.is("column 0 is rock", x.wrong(0), -2);
+        x.map(30, 8);
+        Due.is("column 31 is rock", x.wrong(1), -2);
+        x.map(31, 8);
+        Due.is("no column is rock", x.wrong(2), 8);
+        x.old(0, 8);
+        Due.is("column 0 is OPEN", x.wrong(0), 8);
+        x.old(1, 3108);
+        Due.is("column 31 is OPEN", x.wrong(1), 8);
+        ThirtyThreeBelow y = new ThirtyThreeBelow();
+        y.hole(2, 1);
+        y.hole(2, 3101);
+        y.set(0, 0);
+        y.yard(0, 0);
+        y.hours(1);
+        y.map(2, 1);
+        Due.is("columns 0 to 2", y.wrong(0), 1);
+        y.map(1, 1);
+        Due.is("column 2 is rock", y.wrong(1), -2);
+        y.map(2, 2);
+        Due.is("another yard", y.wrong(2), -2);
+        y.set(0, 1);
+        y.yard(1, 0);
+        y.hours(1);
+        y.map(2931, 1);
+        Due.is("columns 29 to 31", y.wrong(3), 101);
+        y.map(3031, 1);
+        Due.is("column 29 is rock", y.wrong(4), -2);
     }
 
     private static void knowns(ThirtyThreeBelow x, int... want) {

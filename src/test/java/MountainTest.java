@@ -44,6 +44,9 @@ public final class MountainTest {
         Due.is("ofCell first", x.ofCell(1, 0), 1);
         Due.is("neighbour", x.ofCell(101, 0), 3);
         Due.is("neighbour", x.ofCell(2, 0), 3);
+        Due.is("open first cell", x.open(1, 1), 0);
+        Due.is("ofCell first", x.ofCell(1, 1), 1);
+        Due.is("close it", x.open(1, 0), 1);
         Due.is("open", x.open(60, 1), 0);
         Due.is("open again", x.open(60, 1), 1);
         Due.is("ofCell open", x.ofCell(60, 1), 1);
@@ -132,6 +135,9 @@ public final class MountainTest {
         ThirtyThreeBelow y = new ThirtyThreeBelow();
         Due.is("one column", y.shelter(3131, 1), 0);
         Due.is("a", y.ofBody(0, 1), 31);
+        ThirtyThreeBelow z = new ThirtyThreeBelow();
+        Due.is("the first column", z.shelter(0, 1), 0);
+        Due.is("b", z.ofBody(0, 2), 0);
     }
 
     private static void men() {

@@ -49,6 +49,9 @@ public final class OrdersTest {
         Due.tape(x, text.toString() + "+11");
         Due.is("160 bytes", x.text(2, 0), 0);
         Due.is("their sum", x.says(2, -1), 79 + 11);
+        Due.tape(x, "-" + text.toString() + "+1");
+        Due.is("160 bytes of one code each", x.text(2, 0), 1);
+        Due.is("their sum", x.says(2, -1), 78);
     }
 
     private static void refusedTexts() {

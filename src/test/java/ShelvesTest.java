@@ -182,6 +182,7 @@ public final class ShelvesTest {
         filled(x, 0, 3, 3);
         filled(x, 1, 4, 3);
         filled(x, 2, 3, 5);
+        filled(x, 3, 3, 3);
         x.keep(3, 0);
         Due.is("shelf 6", x.shift(6, 0, 0, 0, 1), -1);
         Due.is("other 6", x.shift(0, 0, 6, 0, 1), -1);

@@ -8,6 +8,7 @@ public final class TextsTest {
     private static int[] env;
 
     public static void main(String[] args) {
+        deepTexts();
         for (int n = 0; n < 4000; n++) {
             String text = madeText();
             if (text.length() <= 160) {
@@ -17,6 +18,18 @@ public final class TextsTest {
             }
         }
         Due.end();
+    }
+
+    /** As many operands as can wait: five at each of nine depths. */
+    private static void deepTexts() {
+        String[] ahead = {"0|1&2<3+4*(", "0|h&2>s-4*(", "9+2*(", "0|1&9>3-7%("};
+        for (String part : ahead) {
+            compareValue(part.repeat(8) + "0|1&2<3+4*5" + ")".repeat(8));
+            compareValue("0?1;" + part.repeat(8) + "7" + ")".repeat(8) + ";3");
+        }
+        compareValue("0|1&!(".repeat(4) + "0|1&2<3+4*5" + ")".repeat(4));
+        compareValue("0?1;".repeat(39) + "8-3");
+        compareValue("0?1;".repeat(39) + "0?7");
     }
 
     private static int dice(int n) {

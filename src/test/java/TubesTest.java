@@ -48,12 +48,20 @@ public final class TubesTest {
         x.hours(1);
         Due.is("two of 9", x.below(9), 2);
         Due.is("none of 8", x.below(8), 0);
+        x.down(1, 11, 1);
+        x.down(1, 12, 5);
+        x.down(2, 13, 3);
+        x.hours(3);
+        Due.is("the third, ahead of the second", x.below(3), 1);
+        Due.is("not yet", x.below(2), 0);
+        x.hours(3);
+        Due.is("the second", x.below(2), 1);
         Due.is("on the way", x.count(10), 0);
         Due.is("below 10", x.below(10), -1);
         Due.is("below -1", x.below(-1), -1);
         x.man(100, 0);
         x.spoons(0);
-        x.hours(11);
+        x.hours(5);
         x.down(1, 30, 1);
         x.hours(1);
         Due.is("below ahead of the meal", x.count(9), 1);
@@ -212,6 +220,8 @@ public final class TubesTest {
         Due.is("by numbers", x.watched(0, 2), 3);
         Due.is("by numbers", x.watched(1, 0), 4);
         Due.is("by numbers", x.watched(2, 2), 9);
+        Due.is("of the first nine", x.watch(3, 1), 5);
+        Due.is("the tenth is not asked", x.watched(1, 2), -2);
         Due.is("of the first nine", x.watch(3, 0), 3);
         Due.is("ILL 0", x.watched(0, 1), 5);
         Due.is("ILL 0", x.watched(0, 2), 9);
@@ -247,5 +257,9 @@ public final class TubesTest {
         x.raise(1);
         Due.is("one is up", x.watch(1, 9), 1);
         Due.is("who is below", x.watched(0, 0), liner + 2);
+        ThirtyThreeBelow y = new ThirtyThreeBelow();
+        y.man(50, 0);
+        Due.is("MAN 0", y.watch(1, 0), 1);
+        Due.is("MAN 0", y.watched(0, 0), 0);
     }
 }
