@@ -13,6 +13,7 @@ public final class AimsTest {
         deepCapsule();
         refusedCapsule();
         manZero();
+        allBodies();
         raises();
         Due.end();
     }
@@ -332,6 +333,29 @@ public final class AimsTest {
         Due.is("MAN 0", x.up(0, 0), 0);
         Due.is("raise", x.raise(1), 1);
         Due.is("up", x.ofBody(0, 4), 0);
+    }
+
+    private static void allBodies() {
+        ThirtyThreeBelow x = new ThirtyThreeBelow();
+        x.shelter(31, 1);
+        int shaft = Due.throughAtOnce(x, 4, 3);
+        for (int n = 2; n < 120; n++) {
+            Due.is("man", x.man(n, 0), n);
+        }
+        Due.text(x, 1, 1, "s");
+        Due.is("capsule", x.capsule(shaft), 1 + 118);
+        Due.is("the strongest", x.up(0, 0), 119);
+        Due.is("the weakest", x.up(117, 0), 2);
+        Due.is("no more", x.up(118, 0), -1);
+        x.spoons(500);
+        x.map(31, 1);
+        Due.is("no map is wrong", x.known(3), 1);
+        x.hours(23);
+        Due.is("all eat", x.count(9), 118);
+        Due.is("all last", x.last(0, 9), 0);
+        Due.is("raise", x.raise(117), 117);
+        Due.is("the last one", x.raise(118), 1);
+        Due.is("nobody is below", x.count(3), 0);
     }
 
     private static void raises() {
