@@ -508,10 +508,8 @@ public final class ThirtyThreeBelow {
         if (hole == null || hole.through || hole.bored >= yard) {
             return NOT;
         }
-        int missing = (yard - hole.bored) * one.pace * hard - hole.minutes;
-        if (missing <= 0) {
-            return hour + 1;
-        }
+        // Yards are bored just in an HOUR that gave its 60, so one such HOUR is due even where none is missing.
+        int missing = Math.max(1, (yard - hole.bored) * one.pace * hard - hole.minutes);
         return Math.min(9999, Math.max(hour, one.brokenTill) + (missing + 59) / 60);
     }
 

@@ -211,9 +211,13 @@ public final class AimsTest {
         x.breaks(1, 10);
         Due.is("none up to 10", x.race(1, 2, 2), 11);
         Due.is("none up to 10", x.race(1, 2, 3), 12);
-        Due.is("enough, while it is BROKEN", x.race(1, 2, 1), 5);
+        Due.is("enough, while it is BROKEN", x.race(1, 2, 1), 11);
         x.hours(6);
         Due.is("the last HOUR of it", x.race(1, 2, 2), 11);
+        Due.is("enough, in the last HOUR of it", x.race(1, 2, 1), 11);
+        x.breaks(1, 1699);
+        Due.is("enough, BROKEN to the end", x.race(1, 2, 1), 1700);
+        x.breaks(1, 10);
         x.hours(3);
         Due.is("behind it", x.race(1, 2, 9), 13 + 5);
         ThirtyThreeBelow y = new ThirtyThreeBelow();
