@@ -9,6 +9,7 @@ public final class AimsTest {
         ties();
         aimsOfAll();
         races();
+        racesThatAreRun();
         capsule();
         deepCapsule();
         refusedCapsule();
@@ -238,6 +239,38 @@ public final class AimsTest {
         Due.is("minutes", y.ofBody(other, 6), 120);
         y.breaks(1, 9);
         Due.is("one minute is missing", y.race(1, 11, 1), 10);
+    }
+
+    /** What race() answers is the HOUR in which the yard is bored, when the HOURS do go by. */
+    private static void racesThatAreRun() {
+        for (int run = 0; run < 60; run++) {
+            ThirtyThreeBelow x = new ThirtyThreeBelow();
+            int hard = 1 + dice(3);
+            int yard = 1 + dice(8);
+            for (int y = 1; y <= yard; y++) {
+                x.hard(500 + y, hard);
+            }
+            x.speed(1, 10 + dice(51));
+            int hole = x.hole(2, 501);
+            x.set(1, hole);
+            int ahead = dice(yard + 1);
+            Due.yards(x, hole, ahead);
+            Due.hours(x, dice(30));
+            if (dice(3) > 0) {
+                x.breaks(1, x.count(4) + dice(12));
+            }
+            Due.hours(x, dice(6));
+            int answer = x.race(1, yard, hard);
+            Due.yards(x, hole, yard - ahead);
+            if (x.ofBody(hole, 3) >= yard) {
+                Due.is("there", answer, -2);
+                continue;
+            }
+            for (int h = 0; h < 90 && x.ofBody(hole, 3) < yard; h++) {
+                x.hours(1);
+            }
+            Due.is("race of run " + run, answer, x.count(4));
+        }
     }
 
     private static ThirtyThreeBelow withMen() {
