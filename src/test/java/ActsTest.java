@@ -1,6 +1,6 @@
 /** Promises 47 and 48: acts and their trace, against real classes of the same shape. */
 public final class ActsTest {
-    private static final StringBuilder TRACE = new StringBuilder();
+    static final StringBuilder TRACE = new StringBuilder();
 
     private static int ran(int number) {
         TRACE.append(number).append(' ');
@@ -27,7 +27,7 @@ public final class ActsTest {
         }
     }
 
-    private static class Body implements Bores, Tells {
+    static class Body implements Bores, Tells {
         final int n;
         final int has;
 
@@ -138,7 +138,7 @@ public final class ActsTest {
         }
     }
 
-    private static Body made(int kind, int n, int has) {
+    static Body made(int kind, int n, int has) {
         switch (kind) {
             case 0: return new Body(n, has);
             case 1: return new Way(n, has);
@@ -161,7 +161,7 @@ public final class ActsTest {
         return kind == 6 ? x.shelter(4, 9) : x.man(has, 0);
     }
 
-    private static int acted(Body body, int act, int x) {
+    static int acted(Body body, int act, int x) {
         switch (act) {
             case 0: return body.bores(x);
             case 1: return body.carries(x);
@@ -171,34 +171,46 @@ public final class ActsTest {
     }
 
     public static void main(String[] args) {
-        ThirtyThreeBelow x = new ThirtyThreeBelow();
-        Due.is("no TRACE yet", x.trace(0), -1);
-        Due.is("none ran", x.count(11), 0);
+        ThirtyThreeBelow none = new ThirtyThreeBelow();
+        Due.is("no TRACE yet", none.trace(0), -1);
+        Due.is("none ran", none.count(11), 0);
         for (int n = 0; n < 24; n++) {
-            int kind = n == 22 ? 6 : n % 8 == 6 ? 0 : n % 8;
-            Due.is("number", told(x, kind, n + 11), n);
-            compare(x, kind, n, n + 11);
+            for (int act = 0; act <= 3; act++) {
+                compare(n, act);
+            }
         }
-        refused(x);
+        refused(camp(23));
         strengthAsItIs();
         Due.end();
     }
 
-    private static void compare(ThirtyThreeBelow x, int kind, int n, int has) {
+    private static int kindOf(int n) {
+        return n == 22 ? 6 : n % 8 == 6 ? 0 : n % 8;
+    }
+
+    /** Bodies 0 to the last one, of all kinds. */
+    private static ThirtyThreeBelow camp(int last) {
+        ThirtyThreeBelow x = new ThirtyThreeBelow();
+        for (int n = 0; n <= last; n++) {
+            Due.is("number", told(x, kindOf(n), n + 11), n);
+        }
+        return x;
+    }
+
+    private static void compare(int n, int act) {
+        ThirtyThreeBelow x = camp(n);
         int[] values = {0, 1, -1, 5, 1000, -77, Integer.MAX_VALUE, Integer.MIN_VALUE, 0x55555555};
-        for (int act = 0; act <= 3; act++) {
-            for (int v : values) {
-                TRACE.setLength(0);
-                int want = acted(made(kind, n, has), act, v);
-                Due.is("act(" + n + ", " + act + ", " + v + ") of KIND " + kind, x.act(n, act, v), want);
-                String[] bodies = TRACE.toString().trim().split(" ");
-                Due.is("bodies that ran", x.count(11), bodies.length);
-                for (int i = 0; i < bodies.length; i++) {
-                    Due.is("trace(" + i + ")", x.trace(i), Integer.parseInt(bodies[i]));
-                }
-                Due.is("no more", x.trace(bodies.length), -1);
-                Due.is("-1", x.trace(-1), -1);
+        for (int v : values) {
+            TRACE.setLength(0);
+            int want = acted(made(kindOf(n), n, n + 11), act, v);
+            Due.is("act(" + n + ", " + act + ", " + v + ") of KIND " + kindOf(n), x.act(n, act, v), want);
+            String[] bodies = TRACE.toString().trim().split(" ");
+            Due.is("bodies that ran", x.count(11), bodies.length);
+            for (int i = 0; i < bodies.length; i++) {
+                Due.is("trace(" + i + ")", x.trace(i), Integer.parseInt(bodies[i]));
             }
+            Due.is("no more", x.trace(bodies.length), -1);
+            Due.is("-1", x.trace(-1), -1);
         }
     }
 

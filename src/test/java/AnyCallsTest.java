@@ -19,20 +19,39 @@ public final class AnyCallsTest {
             .sorted(Comparator.comparing(Method::getName)).toArray(Method[]::new);
         Due.is("methods of the face", face.length, 55);
         for (int run = 0; run < 150; run++) {
-            ThirtyThreeBelow x = new ThirtyThreeBelow();
-            ThirtyThreeBelow twin = new ThirtyThreeBelow();
-            for (int n = 0; n < 512; n++) {
-                Method call = face[dice(face.length)];
-                Object[] with = arguments(call);
-                long before = run % 10 == 0 ? state(x) : 0;
-                long answer = answered(call, x, with);
-                if (run % 10 == 0 && isRefusal(call, answer)) {
-                    Due.is(call.getName() + Arrays.toString(with) + " refused changes", state(x), before);
-                }
-                Due.is(call.getName() + " again", answered(call, twin, with), answer);
-            }
+            twins(face);
+            withoutTheRefused(face);
         }
         Due.end();
+    }
+
+    private static void twins(Method[] face) throws Exception {
+        ThirtyThreeBelow x = new ThirtyThreeBelow();
+        ThirtyThreeBelow twin = new ThirtyThreeBelow();
+        for (int n = 0; n < 512; n++) {
+            Method call = face[dice(face.length)];
+            Object[] with = arguments(call);
+            long answer = answered(call, x, with);
+            Due.is(call.getName() + " again", answered(call, twin, with), answer);
+        }
+    }
+
+    /** An object that never heard the refused calls shows the same. */
+    private static void withoutTheRefused(Method[] face) throws Exception {
+        ThirtyThreeBelow x = new ThirtyThreeBelow();
+        ThirtyThreeBelow spared = new ThirtyThreeBelow();
+        StringBuilder refused = new StringBuilder();
+        for (int n = 0; n < 180; n++) {
+            Method call = face[dice(face.length)];
+            Object[] with = arguments(call);
+            long answer = answered(call, x, with);
+            if (isRefusal(call, answer)) {
+                refused.append(call.getName()).append(Arrays.toString(with)).append(' ');
+            } else {
+                Due.is(call.getName() + Arrays.toString(with) + " without the refused", answered(call, spared, with), answer);
+            }
+        }
+        Due.same("after " + refused, Camp.shown(x), Camp.shown(spared));
     }
 
     private static long answered(Method call, ThirtyThreeBelow x, Object[] with) throws Exception {
@@ -84,47 +103,13 @@ public final class AnyCallsTest {
         }
     }
 
+    /** What is no ACT takes THE TRACE away, so it is none of these. */
     private static boolean isRefusal(Method call, long answer) {
         switch (call.getName()) {
-            case "says": case "act": case "element": case "trace": return false;
-            case "set": case "ofBody": return answer == ThirtyThreeBelow.VOID;
+            case "act": return false;
+            case "set": case "ofBody": case "says": return answer == ThirtyThreeBelow.VOID;
+            case "element": return answer == Long.MIN_VALUE;
             default: return answer < 0 && answer > -100;
         }
-    }
-
-    private static long mixed(long sum, long v) {
-        return (sum ^ v) * 1099511628211L + 7;
-    }
-
-    /** All that can be asked without a change. */
-    private static long state(ThirtyThreeBelow x) {
-        long sum = 1;
-        for (int cell = 0; cell < 3200; cell++) {
-            sum = mixed(mixed(sum, x.ofCell(cell, 0)), x.ofCell(cell, 1));
-        }
-        for (int body = 0; body < 120; body++) {
-            for (int what = 0; what < 8; what++) {
-                sum = mixed(sum, x.ofBody(body, what));
-            }
-        }
-        for (int hole = 0; hole < 30; hole++) {
-            for (int yard = 1; yard <= 9; yard++) {
-                sum = mixed(mixed(mixed(sum, x.met(hole, yard)), x.canBe(hole, yard, 0)), x.canBe(hole, yard, 1));
-            }
-        }
-        for (int n = 0; n < 12; n++) {
-            sum = mixed(mixed(mixed(mixed(sum, x.count(n)), x.wrong(n)), x.known(n)), x.below(n));
-            sum = mixed(mixed(mixed(sum, x.ordered(n)), x.up(n, 0)), x.up(n, 1));
-            sum = mixed(mixed(mixed(sum, x.aimedAt(n, 0)), x.aimedAt(n, 1)), x.trace(n));
-            sum = mixed(mixed(mixed(sum, x.watched(n, 0)), x.watched(n, 1)), x.watched(n, 2));
-            sum = mixed(mixed(mixed(sum, x.inForce(n, 1699, 1699)), x.inForce(n + 10, 1699, 1699)), x.race(n, 60, 9));
-            sum = mixed(mixed(sum, x.taken(n, 0)), x.last(n, 1));
-        }
-        for (int shelf = 0; shelf < 6; shelf++) {
-            for (int i = 0; i < 60; i++) {
-                sum = mixed(sum, x.element(shelf, i));
-            }
-        }
-        return sum;
     }
 }

@@ -20,6 +20,25 @@ final class Due {
         is(what, holds ? 1 : 0, 1);
     }
 
+    static void isNot(String call, long got, long refusal) {
+        asked++;
+        if (got == refusal) {
+            wrong++;
+            System.out.println(call + " answered " + got + ", which is a refusal");
+        }
+    }
+
+    /** Each of a row of answers; the first that is not the same is told. */
+    static void same(String what, long[] got, long[] want) {
+        is(what + ": how many", got.length, want.length);
+        for (int i = 0; i < Math.min(got.length, want.length); i++) {
+            if (got[i] != want[i]) {
+                is(what + ": answer " + i, got[i], want[i]);
+                return;
+            }
+        }
+    }
+
     static void end() {
         System.out.println(wrong == 0 ? asked + " answers are as due" : wrong + " answers are not as due");
         if (wrong != 0) {

@@ -14,13 +14,14 @@ public final class MountainTest {
     }
 
     private static void newObject() {
-        ThirtyThreeBelow x = new ThirtyThreeBelow();
         for (int column = 0; column < 32; column++) {
+            ThirtyThreeBelow anew = new ThirtyThreeBelow();
             for (int yard = 1; yard <= 60; yard++) {
-                Due.is("HARD at first", x.ofCell(100 * column + yard, 0), 3);
-                Due.is("OPEN at first", x.ofCell(100 * column + yard, 1), 0);
+                Due.is("HARD at first", anew.ofCell(100 * column + yard, 0), 3);
+                Due.is("OPEN at first", anew.ofCell(100 * column + yard, 1), 0);
             }
         }
+        ThirtyThreeBelow x = new ThirtyThreeBelow();
         for (int what = 0; what <= 11; what++) {
             Due.is("count(" + what + ") at first", x.count(what), 0);
         }

@@ -37,7 +37,7 @@ public final class TextsTest {
         return (int) ((seed >>> 33) % n);
     }
 
-    private static String madeText() {
+    static String madeText() {
         StringBuilder text = new StringBuilder();
         int lines = 1 + dice(3);
         for (int n = 0; n < lines; n++) {
@@ -112,6 +112,11 @@ public final class TextsTest {
         Due.is("FAULT of " + text, Due.text(x, 2, 0, text), fault < 0 ? 0 : -100 - fault);
     }
 
+    static int valueOf(String text, int... names) {
+        env = names;
+        return valueOf(text);
+    }
+
     private static int valueOf(String text) {
         for (String line : text.split(";")) {
             int mark = line.indexOf('?');
@@ -183,7 +188,7 @@ public final class TextsTest {
     }
 
     /** The FAULT by signs alone: what may come next, with a stack of brackets; -1: none. */
-    private static int faultOf(String text) {
+    static int faultOf(String text) {
         boolean wantsOperand = true;
         int digits = 0;
         boolean asked = false;

@@ -161,8 +161,8 @@ public final class TubesTest {
 
     /** Against all orders, of up to six things. */
     private static void ordersOfAll() {
-        ThirtyThreeBelow x = new ThirtyThreeBelow();
         for (int run = 0; run < 300; run++) {
+            ThirtyThreeBelow x = new ThirtyThreeBelow();
             int n = 1 + dice(6);
             int[] hours = new int[n];
             int[] weights = new int[n];
