@@ -11,6 +11,7 @@ public final class TermsTest {
         besideTheShelter();
         shelterToldLater();
         severalThrough();
+        farCorners();
         cuts();
         heldCuts();
         lastHour();
@@ -212,6 +213,53 @@ public final class TermsTest {
         Due.is("and one", x.count(2), 3);
         Due.is("HOLES", x.count(1), 3);
         Due.is("yards", x.count(8), 3);
+    }
+
+    /** Column 0 and column 31, yard 1 and yard 60: cells, boring, logs, maps, moves, the shelter. */
+    private static void farCorners() {
+        int[] columns = {0, 31};
+        for (int column : columns) {
+            ThirtyThreeBelow x = new ThirtyThreeBelow();
+            int first = 100 * column + 1;
+            int last = 100 * column + 60;
+            x.shelter(101 * column, 60);
+            x.hole(2, 100 * column + 99);
+            x.set(2, 1);
+            x.speed(2, 10);
+            x.open(first, 1);
+            x.hard(last, 6);
+            Due.yards(x, 1, 60);
+            Due.is("far below", x.race(2, 60, 1), 10);
+            x.hours(30);
+            Due.is("the first yard", x.met(1, 1), 1);
+            Due.is("58 of 30 minutes, and one of 60", x.ofBody(1, 6), 1800 - 58 * 30 - 60);
+            Due.is("the last yard", x.met(1, 60), 2);
+            Due.is("THROUGH", x.ofBody(1, 5), 1);
+            x.spread(0);
+            x.row(5, 3, 60);
+            Due.is("all LOGS", x.log(1, 5, 0, 1, 60), 60);
+            x.map(101 * column, 60);
+            Due.is("OPEN is not told", x.wrong(0), 101);
+            x.old(0, first);
+            Due.is("as it is", x.wrong(0), NOT);
+            Due.is("known", x.known(4), column);
+            Due.is("known", x.known(3), 60);
+            x.map(101 * column, 59);
+            x.old(1, first);
+            Due.is("rock where the SHELTER is", x.wrong(1), 159);
+            x.map(101 * (31 - column), 60);
+            x.old(2, first);
+            Due.is("the SHELTER where it is not", x.wrong(2), 160);
+            Due.is("a MOVE of the last cell", x.move(last, 31), 1);
+            Due.is("a MOVE of the first cell", x.move(first, 31), 2);
+            x.hours(1);
+            Due.is("the last cell", x.ofCell(last, 0), 9);
+            Due.is("the first cell", x.ofCell(first, 1), 0);
+            Due.is("the SHELTER HOLDS", x.ofBody(0, 4), 1);
+            Due.is("LOST from the last yard on", x.log(1, 0, 0, 60, 1), 0);
+            Due.is("held", x.canBe(1, 60, column == 0 ? 0 : 1), column);
+            Due.is("two columns more", x.canBe(1, 60, column == 0 ? 1 : 0), column == 0 ? 2 : 29);
+        }
     }
 
     private static int[] canBe(int column, int spread, int... logs) {
