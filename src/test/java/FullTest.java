@@ -64,8 +64,26 @@ public final class FullTest {
         Due.is("it is kept", x.keep(0, 119), 1);
         Due.is("it is taken", x.taken(0, kind), kind);
         Due.is("it acts", x.act(119, 2, 0), kind == 5 ? -119 : kind == 6 ? 119 + 119 * 2 - 1 : 119);
-        Due.is("no BODY 120", x.ofBody(120, 0), ThirtyThreeBelow.VOID);
-        Due.is("no BODY 120", x.keep(0, 120), BAD);
+        noSuchBody(x, 120);
+        noSuchBody(x, Integer.MAX_VALUE);
+        noSuchBody(x, -1);
+    }
+
+    /** All calls that take the number of a body. */
+    private static void noSuchBody(ThirtyThreeBelow x, int body) {
+        Due.is("ofBody", x.ofBody(body, 0), ThirtyThreeBelow.VOID);
+        Due.is("ill", x.ill(body, 1), BAD);
+        Due.is("set", x.set(0, body), body == -1 ? -1 : ThirtyThreeBelow.VOID);
+        Due.is("yard", x.yard(body, 0), BAD);
+        Due.is("met", x.met(body, 1), BAD);
+        Due.is("log", x.log(body, 5, 0, 1, 1), BAD);
+        Due.is("canBe", x.canBe(body, 1, 0), BAD);
+        Due.is("says", x.says(0, body), ThirtyThreeBelow.VOID);
+        Due.is("down", x.down(body, 10, 1), BAD);
+        Due.is("capsule", x.capsule(body), BAD);
+        Due.is("act", x.act(body, 0, 5), 0);
+        Due.is("keep", x.keep(0, body), body == -1 ? 1 : BAD);
+        Due.is("BODIES", x.count(0), 120);
     }
 
     private static void yards() {

@@ -48,8 +48,11 @@ public final class SecondTest {
         if (run % 4 > 0) {
             begun();
         }
+        for (int n = run % 16 == 5 ? 96 + dice(24) : 0; n > 0; n--) {
+            compared("crowd", dice(3) > 0 ? "man" : "hole", dice(3) > 0 ? 2 + dice(4) : dice(1000), 1 + dice(99));
+        }
         int[] weights = weights();
-        int calls = run % 3 == 0 ? 460 : 200;
+        int calls = run % 3 == 0 ? 512 - second.bodies.size() - 60 : 200;
         for (int n = 0; n < calls; n++) {
             String name = face[weighed(weights)].getName();
             if (name.equals("text") && (!pending.isEmpty() || second.tape.length() == 0) && dice(8) > 0) {
