@@ -180,11 +180,14 @@ final class Camp {
 
     /** What is seen when it is used up or told anew. */
     private static void used(ThirtyThreeBelow x, Answers all) {
+        all.add(x.need(104, 9));
         all.add(x.order());
         all.add(x.ordered(0));
+        all.add(x.ordered(1));
         for (int r = 0; r < 4; r++) {
             all.add(x.rock(r, r % 2, 1 + r));
         }
+        all.add(x.aim(7, 9));
         all.add(x.aimed(4, 30, 1));
         all.add(x.aimedAt(0, 0));
         all.add(x.spread(2));

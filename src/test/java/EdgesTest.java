@@ -23,6 +23,7 @@ public final class EdgesTest {
 
     public static void main(String[] args) {
         camp();
+        whatIsTakenIsSeen();
         mountain();
         bodies();
         ofBodies();
@@ -56,6 +57,61 @@ public final class EdgesTest {
         for (int m = 0; m < 3; m++) {
             Due.is("where it is", x.set(m, -1), m == 0 ? Camp.HOLE : m == 1 ? Camp.SHAFT : Camp.LINER);
         }
+    }
+
+    private static void seen(String call, ToLongFunction<ThirtyThreeBelow> taken) {
+        ThirtyThreeBelow x = Camp.made();
+        taken.applyAsLong(x);
+        Due.so(call + " is seen", !java.util.Arrays.equals(Camp.shown(x), Camp.shown(Camp.made())));
+    }
+
+    /** Refused calls are seen to change nothing only if calls that are taken are seen. */
+    private static void whatIsTakenIsSeen() {
+        seen("hard", x -> x.hard(1004, 1));
+        seen("open", x -> x.open(1004, 1));
+        seen("body", x -> x.body(0));
+        seen("hole", x -> x.hole(2, 101));
+        seen("man", x -> x.man(1, 1));
+        seen("ill", x -> x.ill(Camp.MAN, 9));
+        for (int m = 0; m < 3; m++) {
+            int one = m;
+            seen("speed", x -> x.speed(one, 11));
+            seen("set", x -> x.set(one, -1));
+            seen("breaks", x -> x.breaks(one, 12));
+        }
+        seen("yard", x -> x.yard(Camp.HOLE, 1));
+        seen("yard", x -> x.yard(Camp.LINER, 1));
+        seen("log", x -> x.log(Camp.HOLE, Camp.FLOATS, 3, 3, 1));
+        seen("log, LOST", x -> x.log(Camp.HOLE, Camp.EMPTY, 3, 2, 1));
+        seen("spread", x -> x.spread(2));
+        seen("map", x -> x.map(1113, 2));
+        seen("old", x -> x.old(0, 3160));
+        seen("feed", x -> x.feed(1, '1'));
+        seen("text", x -> x.text(12, 1699));
+        seen("hours", x -> x.hours(1));
+        seen("spoons", x -> x.spoons(49));
+        seen("move", x -> x.move(101, 1699));
+        seen("down", x -> x.down(Camp.TUBE, 19, 1));
+        seen("need", x -> x.need(101, 99));
+        seen("order", x -> x.order());
+        seen("watch", x -> x.watch(2, 9));
+        seen("aim", x -> x.aim(1, 9));
+        seen("aimed", x -> x.aimed(1, 1, 1));
+        for (int r = 0; r < 4; r++) {
+            int row = r;
+            seen("rock", x -> x.rock(row, row % 2, 2));
+        }
+        seen("capsule", x -> x.hours(1) + x.capsule(Camp.SHAFT));
+        seen("raise", x -> x.raise(1));
+        seen("act", x -> x.act(Camp.BODY, 0, 0));
+        for (int shelf = 0; shelf <= 5; shelf++) {
+            int one = shelf;
+            seen("keep", x -> x.keep(one, Camp.MAN));
+            seen("row", x -> x.row(one, 1, 1));
+        }
+        seen("put", x -> x.put(Camp.DOUBLES, 2, 1));
+        seen("blank", x -> x.blank(Camp.FLOATS, 0));
+        seen("shift", x -> x.shift(Camp.BYTES, 1, Camp.BYTES, 0, 2));
     }
 
     private static void inside(String call, long refusal, With with, int... values) {
